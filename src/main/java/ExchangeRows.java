@@ -255,24 +255,20 @@ public final class ExchangeRows {
     }
 
     public int walk() {
-        int answer = walked();
-        text.forget();
-        return answer;
-    }
-
-    private int walked() {
-        int fault = text.firstMisplaced();
-        if (fault >= 0) {
-            return -1000 - fault;
-        }
+        int misplaced = text.firstMisplaced();
         trial.become(current);
-        fault = text.firstImpossible(trial, exchanger);
-        if (fault >= 0) {
-            return -2000 - fault;
+        int impossible = misplaced < 0 ? text.firstImpossible(trial, exchanger) : -1;
+        int many = text.statements();
+        text.forget();
+        if (misplaced >= 0) {
+            return -1000 - misplaced;
+        }
+        if (impossible >= 0) {
+            return -2000 - impossible;
         }
         past.keep(current);
         current.become(trial);
-        return text.statements();
+        return many;
     }
 
     public int letter(int c) {
@@ -351,7 +347,7 @@ public final class ExchangeRows {
         if (i < 0) {
             return steps;
         }
-        return i < steps ? search.stepOf(place, steps - 1 - i) : NONE;
+        return i < steps ? search.letterTo(place, i) : NONE;
     }
 
     public int lots(int n, int z, int what) {
@@ -638,38 +634,21 @@ public final class ExchangeRows {
         private long above = 0;
         private long under = 1;
 
-        void set(long over, long below) {
-            long divisor = commonDivisor(over, below);
+        /** Whether it isn't GREAT: of two such ones no product and no sum leaves the longs. */
+        boolean set(long over, long below) {
+            long divisor = below < 0 ? -commonDivisor(over, below) : commonDivisor(over, below);
             if (divisor == 0 || below == 0) {
                 above = 0;
                 under = 1;
-                return;
-            }
-            if (below < 0) {
-                divisor = -divisor;
+                return true;
             }
             above = over / divisor;
             under = below / divisor;
+            return Math.abs(above) <= GREATEST && under <= GREATEST;
         }
 
         boolean same(Fraction other) {
             return above == other.above && under == other.under;
-        }
-
-        /** Whether the product isn't GREAT; so no later product leaves the longs. */
-        boolean times(long over, long below) {
-            set(above * over, under * below);
-            return !isGreat();
-        }
-
-        /** Whether the sum isn't GREAT. */
-        boolean plus(Fraction other) {
-            set(above * other.under + other.above * under, under * other.under);
-            return !isGreat();
-        }
-
-        private boolean isGreat() {
-            return Math.abs(above) > GREATEST || under > GREATEST;
         }
     }
 
@@ -896,7 +875,7 @@ public final class ExchangeRows {
         }
 
         int b(int i, int j) {
-            return has(i) && has(j) ? cells[TABLE + MOST * i + j] : 0;
+            return i >= 0 && i < MOST && j >= 0 && j < MOST ? cells[TABLE + MOST * i + j] : 0;
         }
 
         int d(int i, int c) {
@@ -917,7 +896,7 @@ public final class ExchangeRows {
         }
 
         boolean tellEntry(int i, int j, int v) {
-            if (!has(i) || !has(j) || i == j || Math.abs(v) > MOST_ENTRY) {
+            if (!has(i) || !has(j) || i == j || v < -MOST_ENTRY || v > MOST_ENTRY) {
                 return false;
             }
             setB(i, j, v);
@@ -1102,7 +1081,10 @@ public final class ExchangeRows {
             if (!seed.has(k) || !multiply(seed, k, 1, up) || !multiply(seed, k, -1, down)) {
                 return false;
             }
-            if (!up.plus(down) || !up.times(seed.under(k), seed.above(k)) || !seed.staysSmall(k)) {
+            boolean can = up.set(up.above * down.under + down.above * up.under, up.under * down.under)
+                && up.set(up.above * seed.under(k), up.under * seed.above(k))
+                && seed.staysSmall(k);
+            if (!can) {
                 return false;
             }
             seed.exchangeDegrees(k);
@@ -1116,7 +1098,7 @@ public final class ExchangeRows {
             for (int i = 0; i < seed.size; i++) {
                 int times = sign * seed.b(i, k);
                 for (int t = 0; t < times; t++) {
-                    if (!into.times(seed.above(i), seed.under(i))) {
+                    if (!into.set(into.above * seed.above(i), into.under * seed.under(i))) {
                         return false;
                     }
                 }
@@ -1135,8 +1117,10 @@ public final class ExchangeRows {
 
         private int many = 0;
         private final Seed[] found = new Seed[MOST];
+        // The place that each is reached from, by which letter, by how many EXCHANGES.
         private final int[] from = new int[MOST];
         private final int[] by = new int[MOST];
+        private final int[] depth = new int[MOST];
 
         Search() {
             for (int i = 0; i < MOST; i++) {
@@ -1146,42 +1130,21 @@ public final class ExchangeRows {
 
         void explore(Seed origin, int steps, Exchanger exchanger) {
             found[0].become(origin);
-            from[0] = -1;
             by[0] = -1;
+            depth[0] = 0;
             many = 1;
-            int begin = 0;
-            for (int step = 0; step < steps; step++) {
-                int end = many;
-                for (int place = begin; place < end; place++) {
-                    spread(place, exchanger);
-                }
-                begin = end;
-            }
-        }
-
-        private void spread(int place, Exchanger exchanger) {
-            if (place < 0 || place >= MOST) {
-                return;
-            }
-            for (int k = 0; k < found[place].size; k++) {
-                if (k != by[place]) {
-                    attempt(place, k, exchanger);
+            for (int place = 0; place < many && place < MOST && depth[place] < steps; place++) {
+                for (int k = 0; k < origin.size && many < MOST; k++) {
+                    Seed next = found[many];
+                    next.become(found[place]);
+                    if (k != by[place] && exchanger.make(next, k) && !isKnown(next)) {
+                        from[many] = place;
+                        by[many] = k;
+                        depth[many] = depth[place] + 1;
+                        many++;
+                    }
                 }
             }
-        }
-
-        private void attempt(int place, int k, Exchanger exchanger) {
-            if (many >= MOST || place < 0 || place >= many) {
-                return;
-            }
-            Seed next = found[many];
-            next.become(found[place]);
-            if (!exchanger.make(next, k) || isKnown(next)) {
-                return;
-            }
-            from[many] = place;
-            by[many] = k;
-            many++;
         }
 
         private boolean isKnown(Seed seed) {
@@ -1259,24 +1222,16 @@ public final class ExchangeRows {
         }
 
         int stepsTo(int place) {
-            int steps = 0;
-            for (int p = ahead(place); p >= 0 && steps < MOST_STEPS; p = ahead(p)) {
-                steps++;
-            }
-            return steps;
+            return place >= 0 && place < many && place < MOST ? depth[place] : 0;
         }
 
-        /** The letter that is EXCHANGED on the way to a place, told from the way's end. */
-        int stepOf(int place, int fromEnd) {
-            int p = place;
-            for (int i = 0; i < fromEnd && i < MOST_STEPS; i++) {
-                p = ahead(p);
+        /** The i-th letter that is EXCHANGED on the way to a place; the way is told from its end. */
+        int letterTo(int place, int i) {
+            int at = place;
+            for (int step = 0; step < MOST_STEPS && i >= 0 && stepsTo(at) > i + 1; step++) {
+                at = from[at];
             }
-            return p >= 0 && p < MOST ? by[p] : NONE;
-        }
-
-        private int ahead(int place) {
-            return place >= 0 && place < MOST ? from[place] : -1;
+            return i >= 0 && stepsTo(at) == i + 1 ? by[at] : NONE;
         }
     }
 

@@ -454,6 +454,11 @@ public final class PromiseTest {
     // 5 to the 9th times 2 to the 9th is 1000000000, plus 1 is great; of 4 it is 512000000.
     due("17 the sum alone is great", walk(new ExchangeRows(), "n3;b109;b209;s15;s22;m0;"), -2021);
     due("17 the sum is not great", walk(new ExchangeRows(), "n3;b109;b209;s14;s22;m0;"), 6);
+    // 9 to the 9th, times 9 is great, though times 2/9 behind it it would not be; times 2/9 first it never is.
+    due("17 up is great on the way", walk(new ExchangeRows(), "n4;b039;b131;b23-1;s09;s19;s29;m2;m3;"), -2034);
+    due("17 up is not great, by numbers", walk(new ExchangeRows(), "n4;b03-1;b139;b231;s09;s19;s29;m0;m3;"), 9);
+    due("17 down is great on the way", walk(new ExchangeRows(), "n4;b03-9;b13-1;b231;s09;s19;s29;m2;m3;"), -2035);
+    due("17 down is not great, by numbers", walk(new ExchangeRows(), "n4;b031;b13-9;b23-1;s09;s19;s29;m0;m3;"), 9);
     // b(1, 2): 3 times 3 is 9; with 1 more, 10.
     due("17 an entry of 9", walk(new ExchangeRows(), "n3;b103;b023;m0;"), 4);
     due("17 an entry of 10", walk(new ExchangeRows(), "n3;b103;b023;b121;m0;"), -2018);
