@@ -627,7 +627,7 @@ public final class ExchangeRows {
         }
     }
 
-    /** A fraction in least terms, used again and again. */
+    /** A fraction in least terms, used again and again; below the line only numbers above 0 ever stand. */
     private static final class Fraction {
         private static final long GREATEST = 1000000000;
 
@@ -636,8 +636,8 @@ public final class ExchangeRows {
 
         /** Whether it isn't GREAT: of two such ones no product and no sum leaves the longs. */
         boolean set(long over, long below) {
-            long divisor = below < 0 ? -commonDivisor(over, below) : commonDivisor(over, below);
-            if (divisor == 0 || below == 0) {
+            long divisor = commonDivisor(over, below);
+            if (divisor == 0) {
                 above = 0;
                 under = 1;
                 return true;
@@ -952,9 +952,10 @@ public final class ExchangeRows {
             return b(i, j) + twice / 2;
         }
 
+        /** Of b(i, j) and b(j, i) one alone need be looked at. */
         boolean staysSmall(int k) {
             for (int i = 0; i < size; i++) {
-                for (int j = 0; j < size; j++) {
+                for (int j = i + 1; j < size; j++) {
                     if (Math.abs(exchangedB(i, j, k)) > MOST_ENTRY) {
                         return false;
                     }

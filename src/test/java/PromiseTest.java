@@ -147,6 +147,12 @@ public final class PromiseTest {
     rowIs("4 eight", rowOf(6, 2, 1, 2, 3, 4, 5, 6, 7, 8), 10, 1, 2, 1, 2, 3, 4, 5, 6, 7, 8, 110, 234);
     rowIs("4 the last ahead of 100000000", rowOf(3, 3, 1, 1, 2, 1), 11, 2, 0, 1, 1, 2, 1, 13, 29, 268, 6007, 29975, 4009843, 99935182);
     rowIs("4 the first behind 100000000", rowOf(3, 6, 1, 6, 6, 6), 8, 2, 0, 1, 6, 6, 6, 252, 288, 63792, 2762208);
+    ExchangeRows anew = rowOf(1, 0, 9, 4);
+    rowIs("4 a rest, first", anew, 2, 1, 7, 9, 4);
+    anew.start(0, 0, 1);
+    rowIs("4 too great, then", anew, 14, 2, 0, 1, 4, 16, 64);
+    anew.start(0, 1, 1);
+    rowIs("4 without end, then", anew, 60, 0, 0, 1, 1, 1, 1);
     due("4 first below 1 is 0", rowOf(0, 9, 9, 1).of(0, 6), 2);
     due("4 first below 1", rowOf(0, 2, 9, 7).of(0, 6), 5);
     due("4 none below 1", rowOf(0, 3).of(0, 6), -9);
@@ -244,6 +250,7 @@ public final class PromiseTest {
     due("8 two and 0", rowOf(0, 2, 4, 2).common(0), 0);
     // 2, 2, 0, -2.
     due("8 the least", rowOf(0, 1, 2, 2).common(0), 0);
+    due("8 two terms alone", rowOf(1, 1, 8, 6).common(0), 0);
     due("8 below 0", rowOf(0, 0, 1, 3).common(0), -9);
     ExchangeRows x = rowOf(1, 0, 9, 4);
     due("8 two terms", x.common(0), -9);
@@ -459,6 +466,9 @@ public final class PromiseTest {
     due("17 up is not great, by numbers", walk(new ExchangeRows(), "n4;b03-1;b139;b231;s09;s19;s29;m0;m3;"), 9);
     due("17 down is great on the way", walk(new ExchangeRows(), "n4;b03-9;b13-1;b231;s09;s19;s29;m2;m3;"), -2035);
     due("17 down is not great, by numbers", walk(new ExchangeRows(), "n4;b031;b13-9;b23-1;s09;s19;s29;m0;m3;"), 9);
+    // 5 to the 9th times 2 to the 9th is 1000000000, which isn't great; then a half of it; below the line likewise, then 2 of it.
+    due("17 up to 1000000000 on the way", walk(new ExchangeRows(), "n4;b039;b139;b23-1;s05;s12;s24;m2;m3;"), 9);
+    due("17 below the line, too", walk(new ExchangeRows(), "n4;b03-9;b13-9;b231;b201;s05;s14;s22;m0;m1;m3;"), 11);
     // b(1, 2): 3 times 3 is 9; with 1 more, 10.
     due("17 an entry of 9", walk(new ExchangeRows(), "n3;b103;b023;m0;"), 4);
     due("17 an entry of 10", walk(new ExchangeRows(), "n3;b103;b023;b121;m0;"), -2018);
@@ -510,6 +520,22 @@ public final class PromiseTest {
     fraction("18 values", y, 1, 1, 1);
     due("18 w: table", y.entry(0, 1), 1);
     due("18 w: start of 1", y.begins(1, 1), 2);
+    ExchangeRows v = seedOf("n4;b011;b023;b13-2;b122;s21;s12;s24;s36;m2;");
+    // For 2: b(0, 2) is 3, b(1, 2) is 2: (1 times 2 times 2 plus 1) / 4.
+    fraction("18 m2", v, 2, 5, 4);
+    due("18 w21", walk(v, "w21;"), 1);
+    fraction("18 w21: the value of 1", v, 1, 5, 4);
+    fraction("18 w21: the value of 2", v, 2, 2, 1);
+    fraction("18 w21: the value of 3", v, 3, 6, 1);
+    int[][] table = {{0, -3, 1, 0}, {3, 0, 2, 0}, {-1, -2, 0, -2}, {0, 0, 2, 0}};
+    int[][] degrees = {{-1, 0, 0, 0}, {0, 1, 0, 0}, {0, 0, -1, 0}, {0, 0, 0, -1}};
+    for (int i = 0; i < 4; i++) for (int j = 0; j < 4; j++) {
+      due("18 w21: entry " + i + j, v.entry(i, j), table[i][j]);
+      due("18 w21: degree " + i + j, v.power(i, j), degrees[i][j]);
+    }
+    due("18 w21: start", v.begins(1, 4), 4);
+    due("18 w21: start", v.begins(2, 2), 2);
+    due("18 w21: start", v.begins(3, 6), 6);
     ExchangeRows z = new ExchangeRows();
     due("18 72 letters", walk(z, "m0;".repeat(24)), 24);
     due("18 an unfinished one of 72", walk(z, "m0;".repeat(22) + "b01-1;".substring(0, 5) + "b"), -1071);
@@ -561,6 +587,10 @@ public final class PromiseTest {
     due("22 nothing between", new ExchangeRows().ring(0, 1), 4);
     due("22 one between", seedOf("b011;").ring(1, 0), 5);
     due("22 never", seedOf("b012;").ring(0, 1), -9);
+    // 1, 1, 2, 5, 13 .. to and fro: ten steps to 1, ten beyond.
+    String there = "b012;" + "m0;m1;".repeat(5);
+    due("22 20 is found", seedOf(there).ring(1, 0), 20);
+    due("22 22 is not", seedOf(there + "m0;").ring(0, 1), -9);
     due("22 can't be", seedOf("b019;").ring(0, 1), -9);
     // (1 + 3) / 2 is 2 again.
     due("22 at once", seedOf("b011;s02;s13;").ring(0, 1), 1);
@@ -601,9 +631,10 @@ public final class PromiseTest {
     due("23 three of four", y.reached(3, 0), 15);
     due("23 two of four", y.reached(2, 0), 11);
     due("23 their values", y.reached(4, 1), 2);
-    // No two ways but there and back meet: 1 + 4 + 12 + 36 + 108.
+    // No two ways but there and back meet.
     ExchangeRows z = seedOf("n4;b011;b022;b031;b122;b131;b231;s02;s13;");
     due("23 nothing meets in two", z.reached(2, 0), 1 + 4 + 12);
+    due("23 nothing meets in four", seedOf("n4;b01-1;b022;b03-1;b12-1;b131;b231;").reached(4, 0), 1 + 4 + 12 + 36 + 108);
     ExchangeRows v = seedOf("b012;m0;m1;");
     due("23 the greatest d from there", v.reached(1, 2), 3);
     due("23 the greatest d there", v.reached(0, 2), 2);
