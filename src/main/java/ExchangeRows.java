@@ -1466,7 +1466,7 @@ public final class ExchangeRows {
 
         int takeFrom(Row row, int from) {
             int many = 0;
-            for (int i = from; has(i) && row.reaches(many); i++) {
+            for (int i = from; i < size && row.reaches(many); i++) {
                 tell(i, row.termAt(many));
                 many++;
             }
